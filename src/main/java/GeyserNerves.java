@@ -19,8 +19,8 @@ public final class GeyserNerves {
     private final Ground[] levels = new Ground[MOST_TURNS + 1];
     private final Ground[] images = new Ground[MOST_IMAGES];
     private final boolean[] kept = new boolean[MOST_IMAGES];
-    private final Tape tape = new Tape();
-    private final Reader reader = new Reader(tape);
+    private final Reader reader = new Reader();
+    private final Tape tape = reader.from;
     private final Seen seen = new Seen();
     private final int[] upsByHour = new int[LAST_SEEN_HOUR + 1];
     private final long[] hoursByNerve = new long[MOST_NERVE + 1];
@@ -402,7 +402,7 @@ public final class GeyserNerves {
         int best = NOBODY;
         int most = -1;
         for (int c = 0; c <= now.ventCount; c++) {
-            int ups = leastFor(0, n, now.choice(c));
+            int ups = leastFor(0, n, now.choice(c), most);
             if (ups > most) {
                 most = ups;
                 best = now.choice(c);
@@ -416,23 +416,27 @@ public final class GeyserNerves {
         int most = 0;
         if (depth < n) {
             for (int c = 0; c <= now.ventCount; c++) {
-                most = Math.max(most, leastFor(depth, n, now.choice(c)));
+                most = Math.max(most, leastFor(depth, n, now.choice(c), most));
             }
         }
         return most;
     }
 
     /** The crowd's turn, when the actor has said with whom he is. */
-    private int leastFor(int depth, int n, int company) {
+    private int leastFor(int depth, int n, int company, int most) {
         if (depth < 0 || depth >= MOST_TURNS) {
             return 0;
         }
         Ground then = levels[depth + 1];
         then.takeMoods(levels[depth]);
-        int without = Integer.bitCount(then.pass(0, company)) + mostFrom(depth + 1, n);
-        then.takeMoods(levels[depth]);
         int with = Integer.bitCount(then.pass(MOST_WATCHERS, company)) + mostFrom(depth + 1, n);
-        return Math.min(without, with);
+        // He has as much elsewhere: how much less it may be here is of no use to him.
+        if (with <= most) {
+            return with;
+        }
+        then.takeMoods(levels[depth]);
+        int without = Integer.bitCount(then.pass(0, company)) + mostFrom(depth + 1, n);
+        return Math.min(with, without);
     }
 
     // ---- hours without anybody
@@ -1044,13 +1048,9 @@ public final class GeyserNerves {
         private static final int END = 0, NAME = 1, NUMBER = 2, STOP = 3;
         private static final int FLOW_LINE = 4, CALM_LINE = 5, HOUR_LINE = 6, NO_LINE = 7;
 
-        final Tape from;
+        final Tape from = new Tape();
         int at, token, start, value, fault, place;
         boolean flowTold, calmTold;
-
-        Reader(Tape tape) {
-            from = tape;
-        }
 
         /** Tells a ground anew: how many lines. What it says is void, if there is a fault. */
         int takeAll(Ground into) {
