@@ -787,7 +787,7 @@ public final class GeyserNerves {
         }
 
         int minds(int watchers) {
-            int more = Math.max(0, watchers - nerve);
+            int more = watchers > nerve ? watchers - nerve : 0;
             int minded = kind == PLAIN ? more : 2 * more;
             if (kind >= SULKY && watchers > 0) {
                 minded += 1;
@@ -1045,7 +1045,7 @@ public final class GeyserNerves {
 
     /** Takes a tape token by token; the first fault stops it. */
     private static final class Reader {
-        private static final int END = 0, NAME = 1, NUMBER = 2, STOP = 3;
+        private static final int END = 0, NAME = 1, NUMBER = 2, STOP = 3, NO_SUCH = 4;
         private static final int FLOW_LINE = 4, CALM_LINE = 5, HOUR_LINE = 6, NO_LINE = 7;
 
         final Tape from = new Tape();
@@ -1089,7 +1089,9 @@ public final class GeyserNerves {
                 fail(TWICE, start);
             }
             flowTold = true;
-            into.flow = takeOnlyNumber(MOST_FLOW);
+            passName();
+            into.flow = takeNumber(0, MOST_FLOW);
+            takeStop();
         }
 
         private void takeCalm(Ground into) {
@@ -1097,14 +1099,9 @@ public final class GeyserNerves {
                 fail(TWICE, start);
             }
             calmTold = true;
-            into.calm = takeOnlyNumber(MOST_CALM);
-        }
-
-        private int takeOnlyNumber(int most) {
             passName();
-            int taken = takeNumber(0, most);
+            into.calm = takeNumber(0, MOST_CALM);
             takeStop();
-            return taken;
         }
 
         private void takeHour(Ground into) {
@@ -1174,36 +1171,30 @@ public final class GeyserNerves {
                 at++;
             }
             start = at;
+            value = 0;
             int first = from.byteAt(at);
+            at++;
             if (first < 0) {
                 token = END;
-            } else if (isLetter(first)) {
-                token = NAME;
-                advanceName();
-            } else if (isFigure(first)) {
-                token = NUMBER;
-                advanceNumber();
             } else if (first == ';') {
                 token = STOP;
-                at++;
+            } else if (isLetter(first)) {
+                token = NAME;
+                for (int i = 0; i < MOST_TAPE && isLetter(from.byteAt(at)); i++) {
+                    at++;
+                }
+            } else if (isFigure(first)) {
+                value = first - '0';
+                // A third figure tells enough: it is too long.
+                for (int i = 0; i < 2 && isFigure(from.byteAt(at)); i++) {
+                    value = 10 * value + from.byteAt(at) - '0';
+                    at++;
+                }
+                token = at - start > 2 ? NO_SUCH : NUMBER;
             } else {
-                fail(NO_TOKEN, start);
+                token = NO_SUCH;
             }
-        }
-
-        private void advanceName() {
-            for (int i = 0; i < MOST_TAPE && isLetter(from.byteAt(at)); i++) {
-                at++;
-            }
-        }
-
-        private void advanceNumber() {
-            value = 0;
-            for (int i = 0; i < 3 && isFigure(from.byteAt(at)); i++) {
-                value = 10 * value + from.byteAt(at) - '0';
-                at++;
-            }
-            if (at - start > 2) {
+            if (token == NO_SUCH) {
                 fail(NO_TOKEN, start);
             }
         }
