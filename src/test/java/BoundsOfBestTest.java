@@ -222,6 +222,15 @@ public final class BoundsOfBestTest {
         check.due("1 fewer", twelve(2, 5, 11, 6).swap(12, 0), NONE);
         check.due("1 ROW", Check.of("plain 8 9;hour 9 4;").swap(9, 0), NONE);
         check.due("no GEYSERS", Check.of("hour 9 4;hour 0 4;").swap(9, 0), NONE);
+        check.by("Promise 24: two ROWS that are to change places, whole");
+        GeyserNerves fewer = Check.of("plain 8 2;hour 3 4;hour 2 4;");
+        check.due("fewer WATCHERS come first", fewer.swap(1, 0), 1);
+        check.due("fewer WATCHERS come first", fewer.swap(1, 1), 2);
+        GeyserNerves actor = Check.of("plain 8 0;calm 9;hour 9 4;hour 9 0;");
+        check.due("the actor comes first", actor.swap(1, 0), 1);
+        check.due("the actor comes first", actor.swap(1, 1), 9);
+        // Now 4 see it in HOUR 1; else 4 in HOUR 0, and 9 without the actor put it off.
+        check.due("the actor is with it no more", Check.of("plain 8 0;calm 9;hour 9 4;hour 4 0;").swap(2, 0), NONE);
     }
 
     // ---- promise 25
@@ -375,6 +384,13 @@ public final class BoundsOfBestTest {
             check.keeps("play(" + n + ", 0)", maker, x -> x.play(hours, 0), 2 * n);
             check.keeps("play(" + n + ", 1)", maker, x -> x.play(hours, 1), 1);
         }
+        // HEAT 8 and 16: FRET must be 0 behind both HOURS, so that he is with it in both.
+        Check.Maker both = () -> Check.of("plain 16 0;plain 60 0;flow 16;calm 9;");
+        check.keeps("one HOUR is too short", both, x -> x.play(1, 0), 0);
+        check.keeps("in two HOURS", both, x -> x.play(2, 0), 1);
+        check.keeps("in three HOURS", both, x -> x.play(3, 0), 1);
+        check.keeps("in four HOURS", both, x -> x.play(4, 0), 2);
+        check.keeps("with it", both, x -> x.play(4, 1), 0);
         check.by("Promise 28: the crowd comes (9 WATCHERS) or not (0), so that GEYSERS go UP least often");
         GeyserNerves x = Check.of("plain 8 0;calm 8;");
         check.due("calmed 1 too little", x.play(1, 0), 0);

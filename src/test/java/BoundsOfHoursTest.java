@@ -510,5 +510,13 @@ public final class BoundsOfHoursTest {
         GeyserNerves went = Check.of("plain 8 9;");
         went.hours(5);
         check.due("WENT does not count", went.again(), 1);
+        GeyserNerves cut = Check.of("plain 4 9;plain 60 9;");
+        cut.hours(1);
+        cut.again();
+        cut.hours(1);
+        cut.cut(1);
+        cut.tell(0, 4);
+        check.due("one that is there no more does not count", cut.again(), 1);
+        check.due("one that is there no more does not count", cut.runs(9, 4), 0);
     }
 }
