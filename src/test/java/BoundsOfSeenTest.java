@@ -222,6 +222,14 @@ public final class BoundsOfSeenTest {
         check.due("NERVES 7 and 9", two.nerves(0), 640);
         check.due("how many of 2", two.ask(0, 1), 1);
         check.due("in HOUR", two.ask(0, 0), 2);
+        // NERVES 0 to 6 go UP in HOURS 7, 15, .., NERVE 8 in HOURS 3, 7, ..: what was left before does not count.
+        GeyserNerves again = saw("plain 12 5;flow 4;hour 9 4;");
+        check.due("how many of 10, by NERVES 7 to 9 in HOUR 11", again.ask(0, 1), 7);
+        check.due("in HOUR", again.ask(0, 0), 11);
+        again.see(7, 0, 1);
+        check.due("NERVES 0 to 6, 8", again.nerves(0), 383);
+        check.due("how many of 8", again.ask(0, 1), 7);
+        check.due("in HOUR", again.ask(0, 0), 3);
     }
 
     private static void askTheFirst() {
