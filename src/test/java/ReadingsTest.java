@@ -5,16 +5,22 @@ public final class ReadingsTest {
 
     public static void main(String[] args) {
         calmForTheSecondTime();
+        againByEachGeyser();
         whomNobody();
         whomByOneRowAlone();
         routeWithNobody();
         routeWithoutRows();
+        swapOfWholeRows();
         bearsByAllGeysers();
         bearsMoreOftenThanNone();
+        bearsByNoneWhoFades();
         crowdStaysAway();
         luckWithTheActor();
+        luckByThePlan();
         seenFromNowOn();
         seenOfAnother();
+        seenOfSeveral();
+        toldOfTheSecond();
         readOfNoRows();
         tornStays();
         check.end();
@@ -32,6 +38,22 @@ public final class ReadingsTest {
             }
             check.due("each once", Check.text(new GeyserNerves(), "flow 1; calm 1;"), 2);
         }
+    }
+
+    // ---- promise 21
+
+    private static void againByEachGeyser() {
+        check.by("Promise 21: all HEATS, FRETS are as now");
+        // Every second HOUR, every third HOUR; from HOUR 2 on HEATS 0, 8.
+        GeyserNerves heats = Check.of("flow 8;plain 8 9;plain 12 9;");
+        heats.hours(2);
+        check.due("the HEATS", 100 * heats.geyser(0, 3) + heats.geyser(1, 3), 8);
+        check.due("HEATS are as now", heats.again(), 6);
+        // The second goes UP in HOURS 2, 5, 8 ..; behind HOUR 0 and HOUR 6 alone its HEAT is 4, its FRET 3.
+        GeyserNerves frets = Check.of("flow 8;plain 8 9;plain 8 6;hour 9 4;hour 0 4;");
+        frets.hours(1);
+        check.due("the FRETS", 100 * frets.geyser(0, 4) + frets.geyser(1, 4), 3);
+        check.due("FRETS are as now", frets.again(), 6);
     }
 
     // ---- promise 22
@@ -85,6 +107,31 @@ public final class ReadingsTest {
         check.due("9 do for three HOURS", x.route(4, 0), 1);
     }
 
+    // ---- promise 24
+
+    private static void swapOfWholeRows() {
+        check.by("Promise 24: two ROWS that are to change places");
+        // 5 see it in HOUR 1, 9 in HOUR 3; if the ROWS 1, 2 change, 9 and 9 do.
+        changing("plain 8 0;calm 6;hour 9 0;hour 5 4;hour 9 0;", 4, 14, 102, 18);
+        // 9 and 3; then 9, 3 in HOUR 2, and 9.
+        changing("plain 8 0;calm 9;hour 9 0;hour 3 0;hour 9 4;", 4, 12, 102, 21);
+        // It goes UP in no HOUR; then in HOUR 2, HEAT 24, FRET 14.
+        changing("plain 8 0;calm 6;hour 9 4;hour 9 0;hour 9 4;", 3, 0, 102, 9);
+    }
+
+    private static void changing(String text, int n, int now, int which, int many) {
+        GeyserNerves x = Check.of(text);
+        check.due("as it is", x.runs(n, 1), now);
+        check.due("which", x.swap(n, 0), which);
+        check.due("how many", x.swap(n, 1), many);
+        for (int what = 0; what < 2; what++) {
+            int first = x.row(which / 100, what);
+            x.set(which / 100, what, x.row(which % 100, what));
+            x.set(which % 100, what, first);
+        }
+        check.due("changed", x.runs(n, 1), many);
+    }
+
     // ---- promise 25
 
     private static void bearsByAllGeysers() {
@@ -113,6 +160,20 @@ public final class ReadingsTest {
             x.set(0, 0, more);
             check.due("by " + more + " less often", x.runs(n, 0) < none ? 1 : 0, 1);
         }
+    }
+
+    private static void bearsByNoneWhoFades() {
+        check.by("Promise 25, terms: than if it had none; less by what FADES, if there are no WATCHERS");
+        GeyserNerves x = Check.of("flow 8;plain 8 9;hour 5 4;");
+        check.due("FRET 0", x.bears(0, 1), 9);
+        x.alter(0, 4, 2);
+        check.due("FRET 2 fades by none alone", x.bears(0, 1), 0);
+        x.alter(0, 4, 3);
+        check.due("FRET 3 does not fade enough", x.bears(0, 1), 9);
+        x.alter(0, 0, 1);
+        check.due("of a shy one it does not", x.bears(0, 1), 9);
+        x.alter(0, 4, 1);
+        check.due("FRET 1 does", x.bears(0, 1), 0);
     }
 
     // ---- promise 28
@@ -187,6 +248,20 @@ public final class ReadingsTest {
         check.due("HEAT 16, FRET 1", x.luck(10, 0, 2, 0), 0);
     }
 
+    private static void luckByThePlan() {
+        check.by("Promises 29, 30: in each of n HOURS nobody comes, or who THE PLAN tells for it");
+        // 9, then none: FRET 9, then 7; HEAT 16.
+        GeyserNerves x = Check.of("flow 8;plain 8 0;hour 9 4;hour 0 4;");
+        check.due("in HOUR 1", x.luck(0, 0, 2, 0), 1);
+        check.due("in HOUR 1", x.mean(0, 2, 0), 1);
+        check.due("in both, by 5 out of ten", x.mean(5, 2, 0), 3);
+        check.due("in both, by 5 out of ten", x.mean(5, 2, 1), 2);
+        x.hours(1);
+        check.due("from HOUR 1 on", x.luck(0, 0, 1, 0), 1);
+        x.hours(1);
+        check.due("from HOUR 2 on", x.luck(0, 0, 1, 0), 0);
+    }
+
     // ---- promises 31 to 35
 
     private static void seenFromNowOn() {
@@ -217,6 +292,36 @@ public final class ReadingsTest {
         check.due("not by itself", x.kinds(0), 0);
         check.due("not by itself", x.nerves(0), 0);
         check.due("not by itself", x.nerves(1), 0);
+    }
+
+    private static void seenOfSeveral() {
+        check.by("Promises 33, 34: all is as SEEN, of each GEYSER");
+        GeyserNerves x = Check.of("flow 8;plain 4 9;plain 8 9;hour 0 4;");
+        x.see(0, 0, 1);
+        x.see(0, 1, 0);
+        x.see(1, 1, 1);
+        check.due("the first goes UP, the second later", x.nerves(0), 1023);
+        check.due("the first goes UP, the second later", x.nerves(1), 1023);
+        check.due("of whatever KIND", x.kinds(1), 15);
+        x.see(1, 0, 0);
+        check.due("the first goes UP then too", x.nerves(1), 0);
+    }
+
+    private static void toldOfTheSecond() {
+        check.by("Promises 33, 35: of a GEYSER");
+        // By 9 WATCHERS and NERVE 9 a sulky one MINDS 1, a faint one 6.
+        GeyserNerves x = Check.of("flow 8;plain 4 9;plain 4 9;hour 9 4;");
+        x.see(0, 1, 1);
+        check.due("KINDS of the second", x.kinds(1), 3);
+        check.due("KINDS of the first", x.kinds(0), 15);
+        // By 5 WATCHERS it goes UP in HOUR 0, if its NERVE is 5 to 9.
+        GeyserNerves y = Check.of("flow 8;plain 4 9;plain 4 9;hour 5 4;");
+        check.due("when to look at the second", y.ask(1, 0), 0);
+        check.due("how many are left", y.ask(1, 1), 5);
+        y.alter(1, 3, 199);
+        y.alter(1, 1, 60);
+        check.due("it goes UP in HOUR 0 whatever its NERVE", y.ask(1, 0) > 0 ? 1 : 0, 1);
+        check.due("when to look at the first", y.ask(0, 0), 0);
     }
 
     // ---- promises 41 and 42
